@@ -39,8 +39,8 @@ public final class LateOrders {
     private static final int SIGN = 20000;
     private static final int NO_TOKEN = 30000;
     private static final int END = 30001;
-    private static final String KEYWORDS = "obeys tires grows zeal tired what fire wall high sea crowd done day "
-        + "when or and not on order march rest build quench stand stop daily place road ";
+    private static final String KEYWORDS =
+        "obeys tires grows zeal tired what fire wall high sea crowd done day when or and not on order march rest build quench stand stop daily place road ";
     private static final int OBEYS = WORD;
     private static final int TIRES = WORD + 1;
     private static final int GROWS = WORD + 2;
@@ -376,7 +376,7 @@ public final class LateOrders {
         if (heard != ALL_PLACES) {
             return NONE;
         }
-        return what == 0 ? day : Integer.numberOfTrailingZeros(last);
+        return what == 0 ? day : leastOf(last);
     }
 
     public int sits(int what) {
@@ -458,6 +458,10 @@ public final class LateOrders {
 
     private static boolean isPlace(int place) {
         return place >= 0 && place < PLACES;
+    }
+
+    private static int leastOf(int set) {
+        return Integer.bitCount((set & -set) - 1);
     }
 
     private static int sum(int[] row) {
@@ -897,7 +901,8 @@ public final class LateOrders {
 
     /**
      * A TEXT as it was read: lines of four cells. LEDGER: day, order. TIDE: day, PLACE (NONE: sea), how much.
-     * ROADS: both PLACES. THE LAW: word, where in the code its E is, its B is, and both end (signs behind what they join).
+     * ROADS: both PLACES. THE LAW: word, where in the code its E begins, its B, and both end. In the code signs stand
+     * behind what they join, so that it needs no tree.
      */
     private static final class Text {
         private static final int WIDTH = 4;
@@ -1425,7 +1430,7 @@ public final class LateOrders {
             return true;
         }
 
-        /** A C that is whole ends each not before it, and with a ) what was joined since its (, which is a whole C again. */
+        /** A whole C ends each not before it, and with a ) what was joined since its (, which is a whole C again. */
         private void closes() {
             endNots();
             for (int i = 0; i < OPEN_AT_MOST && open > 0 && tokens.token() == CLOSES; i++) {
@@ -1472,6 +1477,8 @@ public final class LateOrders {
     private static final class Reckoner {
         private static final int WORDS_AT_MOST = 8;
         private static final int NUMBERS = 1000;
+        // More than there are up to 100000.
+        private static final int FIBONACCI_NUMBERS = 40;
         private final int[] later = new int[MOST + 1];
         private final int[] sooner = new int[MOST + 1];
         private int off;
@@ -1573,7 +1580,7 @@ public final class LateOrders {
             parts[d - 1] = ((d == 1 ? parts[0] : parts[d - 1]) + ab / 1000 * last) % m;
         }
 
-        /** Step by step of the guard, from where the other one, who is to go, is trapped, and from where he is caught. */
+        /** Step by step of the guard: where the other one is trapped if he is to go, and where he is caught if not. */
         private int hunt(Ways roads, int p, int q) {
             for (int place = 0; place < PLACES; place++) {
                 caughtFrom[place] = 1 << place;
@@ -1732,8 +1739,9 @@ public final class LateOrders {
                 for (int i = 0; i < skip; i++) {
                     picks &= picks - 1;
                 }
-                left &= ~Integer.lowestOneBit(picks);
-                length = layWord(words.row(Integer.numberOfTrailingZeros(picks)), length);
+                int pick = leastOf(picks);
+                left &= ~(1 << pick);
+                length = layWord(words.row(pick), length);
             }
             return length;
         }
@@ -1883,7 +1891,7 @@ public final class LateOrders {
         private static int firstTaken(int n) {
             int left = n;
             int greatest = 0;
-            while (left > 0) {
+            for (int i = 0; i < FIBONACCI_NUMBERS && left > 0; i++) {
                 greatest = greatestFibonacci(left);
                 left -= greatest;
             }
@@ -1893,7 +1901,7 @@ public final class LateOrders {
         private static int greatestFibonacci(int most) {
             int a = 1;
             int b = 1;
-            while (b <= most) {
+            for (int i = 0; i < FIBONACCI_NUMBERS && b <= most; i++) {
                 int c = a + b;
                 a = b;
                 b = c;
