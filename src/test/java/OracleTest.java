@@ -13,7 +13,7 @@ public final class OracleTest {
 
     private OracleTest(long seed) {
         random = new Random(seed);
-        manner = random.nextInt(6);
+        manner = random.nextInt(8);
     }
 
     public static void main(String[] args) {
@@ -66,7 +66,7 @@ public final class OracleTest {
     }
 
     private void someCall() {
-        int kind = random.nextInt(100);
+        int kind = manner < 6 ? random.nextInt(100) : 60 + random.nextInt(120);
         if (kind < 45) {
             someDeed();
         } else if (kind < 85) {

@@ -317,6 +317,11 @@ public final class TextTest {
         told(x, "not (not (1=1 and 1=1) or 1=2)", true);
         told(x, "1=2 or (1=1 and (1=2 or (1=1 and not 1=2)))", true);
         told(x, "1+1*2=3 and zeal-1>5", true);
+        told(x, "1<2 and 1=1", true);
+        told(x, "2>1 and 1=1", true);
+        told(x, "1<2 and 2>1", true);
+        told(x, "not (1<2 and 2>1)", false);
+        told(x, "not 2>1 or not 1<2", false);
         told(x, "zeal-9=0-2", true);
         // 4199160042 wraps to -95807254, whose part by 9999 is -9581 and some, downwards -9582.
         told(x, "9999*9999*42<0", true);

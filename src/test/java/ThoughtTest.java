@@ -141,6 +141,11 @@ public final class ThoughtTest {
         Check.due("order kept at 99", x.bath(99, 99, 90, 101), 0);
         Check.due("at 0 at least", x.bath(3, 0, 9, 100), 0);
         Check.due("order at 0", x.bath(3, 0, 9, 101), 0);
+        Check.due("from 0 to 0", x.bath(0, 0, 0, 10), 0);
+        Check.due("from 0 to 99", x.bath(0, 99, 99, 100), 990);
+        Check.due("from 99 to 0", x.bath(99, 0, 0, 20), 198);
+        Check.due("from 9 to 0, from 0 by 9 to 9", x.bath(9, 0, 99, 20), 9);
+        Check.due("its order", x.bath(9, 0, 99, 21), 0);
         Check.due("kept at 50", x.bath(50, 50, 33, 100), 0);
         Check.due("order at 50", x.bath(50, 50, 33, 101), 3);
         // 50 - 9 each day but for what comes: 9 bring 50 back from none.
@@ -302,6 +307,11 @@ public final class ThoughtTest {
             {9999, 4, 1}, {1, 1, 1}, {12, 21, 3, 2}, {12, 34, 4, 2}, {12, 12, 2, 2}, {123, 2, 3, 1}, {111, 11, 3, 2},
             {11, 111, 1, 3, 6}, {1212, 2121, 5, 2}, {1, 2, 3, 4, 5, 5, 120}, {1234, 2345, 3451, 6, 2},
             {9991, 1999, 5, 1}, {12, 23, 31, 4, 6}, {1234, 4567, 23, 7, 2}, {1111, 2222, 3333, 4444, 5555, 20, 120},
+            {9, 1, 1}, {11, 2, 1}, {99, 2, 1}, {111, 3, 1}, {999, 3, 1}, {1111, 4, 1}, {9, 99, 999, 9999, 4, 24},
+            // Behind 123 any order is as good; 5 alone may not lie ahead of a 4.
+            {123, 234, 345, 456, 6, 6}, {12, 21, 11, 22, 5, 10}, {4567, 1234, 3456, 2345, 5678, 8, 24},
+            {456, 123, 345, 234, 5, 6, 18}, {12, 23, 34, 45, 51, 6, 50}, {12, 34, 56, 78, 9, 9, 120},
+            {1, 312, 21, 22, 5, 3}, {33, 32, 111, 3, 22, 7, 23}, {32, 313, 13, 113, 6, 3}, {31, 113, 1, 21, 5, 3}, {32, 313, 13, 113, 7, 7, 7},
         };
         for (int[] row : told) {
             StringBuilder call = new StringBuilder("words");
