@@ -66,7 +66,7 @@ public final class DaysTest {
     }
 
     private static void draws() {
-        // From STATE 0 the draws of 1000 are 563, 577, 533: 1013904223, 1196435762, -775096599, each by 256.
+        // From STATE 0 the draws of 1000 are 563, 577, 494: 1013904223, 1196435762, -775096599, each by 256.
         LateOrders x = duchy(0, 1, 2);
         Check.reads(x, 0, "obeys 563 when high=5;obeys 578 when high=6;obeys 0 when high=7;obeys 1000;", 4);
         x.set(0, 1, 6);
@@ -96,6 +96,16 @@ public final class DaysTest {
         x.order(4, 0, 0, false);
         x.days(2);
         Check.due("563 is below 578", x.of(0, 4), 1);
+        // The third STATE is below 0, its highest 24 bits are 13749494: 494 modulo 1000.
+        LateOrders y = duchy(0);
+        Check.reads(y, 0, "obeys 494 when zeal=5;obeys 495;", 2);
+        for (int zeal = 5; zeal < 7; zeal++) {
+            y.state(1196435762);
+            y.set(3, 0, zeal);
+            y.order(4, 0, 0, false);
+            Check.due("draw of a STATE below 0", y.days(2), zeal - 5);
+            Check.due("that STATE", y.look(9), -775096599);
+        }
     }
 
     private static void deeds() {
@@ -159,6 +169,26 @@ public final class DaysTest {
         x.order(0, 0, 0, false);
         x.days(2);
         Check.due("back by 6, then 5 and 1", x.of(0, 0), 1);
+        Check.reads(x, 3, "place 1 road 9;place 9 road 0;place 0 road 11;place 1 road 10;place 10 road 11;place 1 road 0;", 6);
+        x.order(0, 0, 11, true);
+        x.days(2);
+        Check.due("by 0", x.of(0, 0), 0);
+        x.order(5, 0, 0, false);
+        x.days(2);
+        Check.due("at 11", x.of(0, 0), 11);
+        int last = x.look(8) - 1;
+        Check.due("a march was stopped", x.book(last, 1), 2);
+        Check.due("its what", x.book(last, 3), 0);
+        Check.due("no standing", x.of(0, 5), -1);
+        x.order(0, 0, 9, false);
+        x.days(2);
+        Check.due("to 9 by 0", x.of(0, 0), 0);
+        x.order(0, 0, 10, false);
+        x.days(2);
+        Check.due("to 10 by 1", x.of(0, 0), 1);
+        x.order(0, 0, 0, false);
+        x.days(2);
+        Check.due("to 0", x.of(0, 0), 0);
     }
 
     private static void standing() {
@@ -251,6 +281,10 @@ public final class DaysTest {
         for (int place = 0; place < due.length; place++) {
             Check.due("fire of " + place, x.place(place, 1), due[place]);
         }
+        Check.reads(x, 0, "", 0);
+        x.days(1);
+        Check.due("fire of 0, as usual", x.place(0, 1), 4);
+        Check.due("no fire of 5", x.place(5, 1), 0);
     }
 
     private static void drowning() {

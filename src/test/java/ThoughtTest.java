@@ -220,6 +220,14 @@ public final class ThoughtTest {
         Check.due("clock from 4", x.caught(4, -1), 3);
         Check.due("ring of three", x.caught(8, 10), 1);
         Check.due("clock from 8", x.caught(8, -1), 3);
+        // 0 in the midst of a star: from any end one caught at 0, else at the other end by way of 0.
+        LateOrders star = new LateOrders();
+        Check.reads(star, 3, "place 0 road 1;place 2 road 0;place 0 road 11;", 3);
+        Check.due("to the midst", star.caught(1, 0), 1);
+        Check.due("by the midst", star.caught(1, 2), 2);
+        Check.due("by the midst to the last", star.caught(2, 11), 2);
+        Check.due("from the midst", star.caught(0, 11), 1);
+        Check.due("clock of the star", star.caught(11, -1), 4);
         Check.due("elsewhere", x.caught(0, 4), -1);
         Check.due("caught(12, 0)", x.caught(12, 0), -1);
         Check.due("caught(-1, 0)", x.caught(-1, 0), -1);
@@ -236,7 +244,8 @@ public final class ThoughtTest {
             {5, 2, 4, 1, 1}, {2, 0, 4, 1, 1}, {120, 21, 8, 1, 1}, {100, 1, 8, 1, 1}, {987, 789, 8, 1, 1},
             {7, 3, 16, 1, 1}, {0, 8, 2, 8, 1}, {0, 9, 2, -1, -1}, {1, 2, 3, 1, 2}, {1, 4, 3, 2, 2}, {1, 3, 3, 2, 2},
             {5, 6, 0, -1, -1}, {0, 0, 0, 0, 1}, {1, 256, 1, 8, 1}, {1, 512, 1, -1, -1}, {4, 1, 20, 1, 1}, {2, 0, 20, 1, 1},
-            {3, 0, 20, 1, 1}, {1, 0, 20, 1, 2},
+            {3, 0, 20, 1, 1}, {1, 0, 20, 1, 2}, {998, 999, 2, 1, 1}, {999, 998, 1, 1, 1}, {999, 999, 8, 0, 1}, {999, 996, 4, 1, 1},
+            {999, 499, 16, 1, 1}, {0, 0, 31, 0, 1}, {10, 1, 8, 1, 1}, {6, 3, 20, 1, 2}, {500, 0, 1, 1, 1}, {501, 105, 8, 1, 1},
         };
         for (int[] d : due) {
             String call = "said(" + d[0] + ", " + d[1] + ", " + d[2];
@@ -462,6 +471,23 @@ public final class ThoughtTest {
         }
         Check.due("sits(3)", x.sits(3), -1);
         Check.due("sits(-1)", x.sits(-1), -1);
+        LateOrders y = new LateOrders();
+        y.subject(0, 0);
+        int[] atNone = {1, 0, 0};
+        for (int what = 0; what < 3; what++) {
+            Check.due("one at 0: sits(" + what + ")", y.sits(what), atNone[what]);
+        }
+        Check.reads(y, 3, LINE, 3);
+        y.subject(3, 0);
+        y.subject(0, 0);
+        int[] drawn = {2, 3, 0};
+        for (int what = 0; what < 3; what++) {
+            Check.due("two at 0: sits(" + what + ")", y.sits(what), drawn[what]);
+        }
+        y.subject(2, 0);
+        y.subject(2, 0);
+        Check.due("five: roads", y.sits(1), 5);
+        Check.due("five: at 2", y.sits(2), 2);
         x.subject(11, 0);
         int[] one = {1, 0, 11};
         for (int what = 0; what < 3; what++) {
