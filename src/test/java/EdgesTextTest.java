@@ -51,6 +51,7 @@ public final class EdgesTextTest {
         heldTo();
         growsKnowsNobody();
         firstLineThatIsSo();
+        compared();
         Check.close("EdgesTextTest");
     }
 
@@ -685,6 +686,27 @@ public final class EdgesTextTest {
     private static void so(LateOrders x, String condition) {
         Check.reads(x, 0, "obeys 1 when " + condition + ";obeys 2;", 2);
         Check.due(condition, x.of(0, 6), 1);
+    }
+
+    /** < = > of what is one less, alike, one more; of what is below 0, and of the ends of ints, too. */
+    private static void compared() {
+        LateOrders x = new LateOrders();
+        x.subject(0, 0);
+        String least = "0-9999*9999*21-9999*4790-7999-417-1";
+        String most = "9999*9999*21+9999*4790+7999+417";
+        String[] amounts = {least, "0-2", "0-1", "0", "1", "2", "9999", most};
+        for (int a = 0; a < amounts.length; a++) {
+            for (int b = 0; b < amounts.length; b++) {
+                boolean[] due = {a < b, a == b, a > b};
+                for (int sign = 0; sign < 3; sign++) {
+                    String condition = amounts[a] + "<=>".charAt(sign) + amounts[b];
+                    Check.reads(x, 0, "obeys 1 when " + condition + ";obeys 2;", 2);
+                    Check.due(condition, x.of(0, 6), due[sign] ? 1 : 2);
+                }
+            }
+            x = new LateOrders();
+            x.subject(0, 0);
+        }
     }
 
     /** Ints, which wrap: of + and - and *. */

@@ -820,6 +820,17 @@ public final class EdgesThoughtTest {
         x.comer(1, 20);
         queue("the first that is free", x, 3, 2, 23, 1);
         queue("the first that is free of two", x, 2, 6 + 8, 29, 2);
+        x.comer(-1, 0);
+        x.comer(99, 20);
+        x.comer(99, 1);
+        queue("as told at the last minute", x, 1, 20, 120, 1);
+        x.comer(98, 20);
+        queue("the minute ahead of it", x, 1, 19 + 39, 139, 2);
+        x.comer(-1, 0);
+        x.comer(99, 1);
+        x.comer(0, 20);
+        x.comer(98, 20);
+        queue("the first minute and the last", x, 1, 19, 119, 1);
     }
 
     // ---- CROSS
@@ -880,6 +891,11 @@ public final class EdgesThoughtTest {
         cross(0, 1, 1, 5, 2, 5);
         cross(0, 1, 1, 5, 1, 6);
         cross(0, 1, 1, 5, 1, 5);
+        cross(0, 1, 0, 99, 0, 1);
+        cross(0, 1, 50, 99, 50, 60);
+        cross(0, 1, 98, 99, 97, 99, 0, 99);
+        cross(0, 1, 97, 98, 97, 99);
+        cross(1, 2, 96, 99, 97, 98);
         cross(0, 1, 1, 2, 2, 3, 3, 4);
         cross(1, 2, 0, 99, 1, 98);
         cross(1, 2, 0, 99, 97, 98);
