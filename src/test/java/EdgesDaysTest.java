@@ -322,7 +322,7 @@ public final class EdgesDaysTest {
     /** SEA above HIGH and above WALL by 10. */
     private static void seaAbove() {
         int[][] dry = {{0, 0, 0}, {1, 1, 0}, {5, 5, 0}, {6, 7, 0}, {9, 9, 0}, {1, 0, 10}, {1, 0, 19}, {2, 0, 20}, {2, 1, 29}, {9, 8, 90},
-            {9, 0, 99}, {5, 5, 50}, {3, 9, 99}};
+            {9, 0, 99}, {5, 5, 50}, {3, 9, 99}, {1, 0, 20}, {1, 0, 99}, {3, 0, 99}, {8, 7, 99}, {0, 0, 99}};
         int[][] wet = {{1, 0, 0}, {1, 0, 9}, {2, 1, 0}, {2, 0, 10}, {2, 1, 19}, {6, 5, 0}, {6, 5, 59}, {9, 8, 0}, {9, 8, 89}, {9, 0, 80}};
         for (int[] row : dry) {
             Check.due("SEA " + row[0] + ", HIGH " + row[1] + ", WALL " + row[2], drowns(row), 0);
@@ -602,6 +602,18 @@ public final class EdgesDaysTest {
             x.order(what, 0, 11, true);
             x.days(2);
             Check.due("what goes on behind a stop", x.of(0, 5), what == MARCH ? 110 : what);
+        }
+        // Of a STANDING march it is the what alone, whatever its PLACE.
+        for (int place = 0; place < 12; place++) {
+            LateOrders x = duchy("obeys 0;", 3);
+            x.order(MARCH, 0, place, true);
+            x.days(2);
+            Check.due("STANDING", x.of(0, 5), 10 * place);
+            x.order(STOP, 0, 0, false);
+            x.days(2);
+            book(x, 0, 1, 1, 0, MARCH);
+            book(x, 1, 2, 1, 0, MARCH);
+            book(x, 2, 3, 2, 0, MARCH);
         }
     }
 
