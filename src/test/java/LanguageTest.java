@@ -1,8 +1,17 @@
+import java.lang.reflect.Executable;
+import java.lang.reflect.Field;
+import java.lang.reflect.Member;
+import java.lang.reflect.Method;
+import java.lang.reflect.Modifier;
 import java.nio.charset.StandardCharsets;
 import java.nio.file.Files;
 import java.nio.file.Path;
 import java.util.ArrayDeque;
+import java.util.ArrayList;
 import java.util.Deque;
+import java.util.List;
+import java.util.Set;
+import java.util.TreeSet;
 import java.util.regex.Matcher;
 import java.util.regex.Pattern;
 
@@ -21,6 +30,7 @@ public final class LanguageTest {
         imports(code);
         statics(code);
         methods(code);
+        face();
         System.out.println("LanguageTest: " + wrong + " breaches");
         if (wrong != 0) {
             System.exit(1);
@@ -92,6 +102,67 @@ public final class LanguageTest {
             if (Pattern.compile("private (?:static )?[\\w\\[\\]]+ " + m.group(1) + "\\(").matcher(code).find()) {
                 breach("a private method bears the name " + m.group(1));
             }
+        }
+    }
+
+    /** Rules 1 and 11: what the document shows is public, and nothing else is to be seen; no class has too many fields. */
+    private static void face() throws java.io.IOException {
+        String document = new String(Files.readAllBytes(Path.of("../shared/DOC.md")), StandardCharsets.UTF_8);
+        Set<String> due = new TreeSet<>();
+        Matcher m = Pattern.compile("(?m)^    public (.*);$").matcher(document);
+        while (m.find()) {
+            due.add(m.group(1).replaceAll("(int|boolean) \\w+(?=[,)])", "$1"));
+        }
+        Set<String> seen = new TreeSet<>();
+        for (Member member : members()) {
+            if (!Modifier.isPrivate(member.getModifiers())) {
+                seen.add(shown(member));
+            }
+        }
+        if (due.size() != 37 || !seen.equals(due)) {
+            breach("the face is " + seen + ", in the document " + due);
+        }
+        for (Class<?> inside : LateOrders.class.getDeclaredClasses()) {
+            int how = inside.getModifiers();
+            if (!Modifier.isStatic(how) || Modifier.isPublic(how) || Modifier.isProtected(how) || inside.getDeclaredClasses().length > 0) {
+                breach("the class inside " + inside);
+            }
+            fields(inside);
+        }
+        fields(LateOrders.class);
+        if (LateOrders.class.getModifiers() != (Modifier.PUBLIC | Modifier.FINAL)) {
+            breach("the class is not public and final alone");
+        }
+    }
+
+    private static List<Member> members() {
+        List<Member> all = new ArrayList<>();
+        all.addAll(List.of(LateOrders.class.getDeclaredFields()));
+        all.addAll(List.of(LateOrders.class.getDeclaredConstructors()));
+        all.addAll(List.of(LateOrders.class.getDeclaredMethods()));
+        return all;
+    }
+
+    private static String shown(Member member) {
+        if (member instanceof Field) {
+            return "static final int " + member.getName() + " = " + LateOrders.NONE;
+        }
+        Executable call = (Executable) member;
+        StringBuilder all = new StringBuilder();
+        for (Class<?> type : call.getParameterTypes()) {
+            all.append(all.length() == 0 ? "" : ", ").append(type);
+        }
+        String type = call instanceof Method ? ((Method) call).getReturnType() + " " : "";
+        return type + call.getName() + "(" + all + ")";
+    }
+
+    private static void fields(Class<?> type) {
+        int many = 0;
+        for (Field field : type.getDeclaredFields()) {
+            many += Modifier.isStatic(field.getModifiers()) ? 0 : 1;
+        }
+        if (many > 20) {
+            breach(many + " fields in " + type);
         }
     }
 

@@ -557,5 +557,23 @@ public final class ThoughtTest {
         for (int[] d : due) {
             Check.due("game(" + d[0] + ")", x.game(d[0]), d[1]);
         }
+        gameOfAll();
+    }
+
+    /** Of each n, by what of fewer is the least that wins: who takes k leaves n - k, of which at most 2 k may be taken. */
+    private static void gameOfAll() {
+        int[] wins = new int[100001];
+        LateOrders x = new LateOrders();
+        for (int n = 1; n <= 100000; n++) {
+            int k = 1;
+            while (k < n && wins[n - k] <= 2 * k) {
+                k++;
+            }
+            wins[n] = k;
+            if (n % 500 == 0) {
+                x = new LateOrders();
+            }
+            Check.due("game(" + n + ")", x.game(n), k == n ? -1 : k);
+        }
     }
 }
